@@ -340,7 +340,8 @@ public final class Groupbooks {
             return true;
         }
 
-        // 100 times its own share less what others hold of it times theirs is what the parent holds.
+        // 100 times its own share, less what each other one holds of it times that one's share,
+        // is what the parent holds.
         private void writeEquations() {
             for (int company = 1; company < COMPANIES; company++) {
                 equations[pair(company, PARENT)] = percents[pair(PARENT, company)];
