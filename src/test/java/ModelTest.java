@@ -4,6 +4,7 @@ import java.util.Random;
 public final class ModelTest {
     private static final int RUNS = 600;
     private static final int CALLS = 512;
+    private static final int CIRCLES = 500;
 
     private final Check check;
     private Random random;
@@ -18,6 +19,45 @@ public final class ModelTest {
     }
 
     void run() {
+        check.test("Model: random runs of 512 calls answer what the model answers",
+            this::randomRuns);
+        check.test("Model: holdings that close a circle are refused as the model refuses them",
+            this::randomCircles);
+    }
+
+    // Companies that come to be held wholly by one another, in any order: the last holding, or
+    // an earlier one that closes a part of them, is refused.
+    private void randomCircles() {
+        int refused = 0;
+        for (int run = 0; run < CIRCLES; run++) {
+            random = new Random(run);
+            books = new Groupbooks();
+            model = new Model();
+            refused += refusedInCircle(2 + random.nextInt(4));
+        }
+        check.note(refused > CIRCLES / 2, "only " + refused + " circles are closed");
+    }
+
+    private int refusedInCircle(int size) {
+        int[] left = {0, 100, 100, 100, 100, 100};
+        int refused = 0;
+        for (int call = 0; call < CALLS / 4; call++) {
+            int owner = 1 + random.nextInt(size);
+            int company = 1 + random.nextInt(size);
+            int more = random.nextInt(3) == 0 ? 1 + random.nextInt(50) : 100;
+            int after = books.held(owner, company) + Math.min(more, left[company]);
+            if (owner != company && left[company] > 0) {
+                long due = model.hold(owner, company, after);
+                boolean taken = Check.thrownBy(books, x -> x.hold(owner, company, after)) == null;
+                check.note(taken == (due != Model.BAD_STATE), "a circle of " + size);
+                left[company] -= taken ? after - (int) due : 0;
+                refused += taken ? 0 : 1;
+            }
+        }
+        return refused;
+    }
+
+    private void randomRuns() {
         for (int run = 0; run < RUNS; run++) {
             random = new Random(20261120L + run);
             books = new Groupbooks();
@@ -25,7 +65,7 @@ public final class ModelTest {
             calm = run % 3 == 0 ? 8 : 200;
             least = run % 2 == 0 ? 1 : 40;
             String wrong = wrongCall(run);
-            check.note(wrong == null, "model: " + wrong);
+            check.note(wrong == null, wrong);
         }
     }
 

@@ -1,4 +1,4 @@
-// All that can be asked of an object, as one text.
+// All that can be asked of an object, as one text. It takes 138 calls.
 public final class Snapshot {
     private Snapshot() {
     }
@@ -46,7 +46,7 @@ public final class Snapshot {
         }
     }
 
-    private static void add(StringBuilder text, long answer) {
+    static void add(StringBuilder text, long answer) {
         text.append(answer).append(' ');
     }
 }
