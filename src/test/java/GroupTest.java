@@ -55,16 +55,22 @@ public final class GroupTest {
         return x;
     }
 
-    private void assetsOfTheGroup() {
-        check.same("of three", Scenes.circle().assets(), 5000 + 1100 + 300 - 45);
-        check.same("of two", withoutTwo().assets(), 5000 + 1100 - 45);
-        check.same("of the parent", parentAlone().assets(), 5000);
+    // Two companies whose assets and debts are all odd, at a closing rate of one half.
+    private static Groupbooks atHalfARate() {
         Groupbooks x = new Groupbooks();
         x.hold(0, 4, 51);
         x.setBooks(0, 3, 1, 1, 1);
         x.setRates(0, 50, 1000, 1000);
         x.setBooks(4, 5, 3, 2, 0);
         x.setRates(4, 50, 100, 100);
+        return x;
+    }
+
+    private void assetsOfTheGroup() {
+        check.same("of three", Scenes.circle().assets(), 5000 + 1100 + 300 - 45);
+        check.same("of two", withoutTwo().assets(), 5000 + 1100 - 45);
+        check.same("of the parent", parentAlone().assets(), 5000);
+        Groupbooks x = atHalfARate();
         check.same("1.5 and 2.5, each rounded down", x.assets(), 3);
         x.claim(4, 0, 7);
         x.admit(0, 4, 4);
@@ -91,12 +97,7 @@ public final class GroupTest {
         check.same("of three", Scenes.circle().debts(), 2000 + 440 + 100 - 45);
         check.same("of two", withoutTwo().debts(), 2000 + 440 - 45);
         check.same("of the parent", parentAlone().debts(), 2000);
-        Groupbooks x = new Groupbooks();
-        x.hold(0, 4, 51);
-        x.setBooks(0, 3, 1, 1, 1);
-        x.setRates(0, 50, 1000, 1000);
-        x.setBooks(4, 5, 3, 2, 0);
-        x.setRates(4, 50, 100, 100);
+        Groupbooks x = atHalfARate();
         check.same("0.5 and 1.5, each rounded down", x.debts(), 1);
         x.claim(0, 4, 4);
         x.admit(4, 0, 7);
