@@ -115,8 +115,10 @@ public final class TermsTest {
         Groupbooks x = Scenes.busy();
         String first = Snapshot.of(x);
         check.note(first.equals(Snapshot.of(x)), "asked again");
-        x.shareByRounds(5, 200);
-        check.note(Probe.of(x).equals(Probe.of(Scenes.busy())), "told on");
+        Groupbooks y = Scenes.busy();
+        Snapshot.of(y);
+        y.shareByRounds(5, 200);
+        check.note(Probe.of(y).equals(Probe.of(Scenes.busy())), "told on");
     }
 
     private void orderDoesNotMatter() {
