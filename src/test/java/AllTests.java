@@ -14,6 +14,7 @@ public final class AllTests {
         new BalancesTest(check).run();
         new GroupTest(check).run();
         new ModelTest(check).run();
+        new ReadmeTest(check).run();
         int missing = promisesWithoutTest(check);
         System.out.println(check.tests() + " tests with " + check.checks() + " checks, "
             + check.failedTests() + " failed");

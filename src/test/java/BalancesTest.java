@@ -17,7 +17,7 @@ public final class BalancesTest {
         check.test("Promise 17: 'debtor: 0 to 5'", this::debtorOfAdmit);
         check.test("Promise 17: 'creditor: 0 to 5, another one'", this::creditorOfAdmit);
         check.test("Promise 17: 'amount: 0 to 1000000'", this::amountOfAdmit);
-        check.test("Promise 18: 'claims less what the debtor admits'", this::differenceAnswers);
+        check.test("Promise 18: 'less what the debtor admits'", this::differenceAnswers);
         check.test("Promise 18: 'whether they are in the group or not'", this::differenceAnywhere);
         check.test("Promise 18: 'creditor: 0 to 5'", this::creditorOfDifference);
         check.test("Promise 18: 'debtor: 0 to 5, another one'", this::debtorOfDifference);
